@@ -1,0 +1,203 @@
+/** Promises 22 to 29: the fewest visits more, rings, the best day, idle visits, swaps. */
+public final class VisitsTest {
+    private static final String HEAD = "town marks 3 within 0 late 0 shut 6";
+    private static final String THREE = HEAD + ";person p plain aaa;person q plain aaa;person r plain aaa"
+        + ";change p day 4 mark 0 by 1;change q day 4 mark 0 by 1;change r day 4 mark 0 by 1";
+
+    private VisitsTest() {
+    }
+
+    public static void main(String[] args) {
+        none();
+        one();
+        more();
+        tooMany();
+        notAheadOfNow();
+        rings();
+        ringsByNow();
+        bestDay();
+        idle();
+        swaps();
+        Check.end("VisitsTest");
+    }
+
+    private static void none() {
+        MirrorHour x = Check.town(HEAD + ";person p plain aaa;wish p day 9");
+        Check.due("fewest() of wishes that hold", x.fewest(), 0);
+        Check.refused(x, "fewestAt(0)", x.fewestAt(0), 1);
+        MirrorHour y = new MirrorHour();
+        Check.refused(y, "fewest", y.fewest(), 1);
+        Check.refused(y, "ring", y.ring(0), 1);
+        Check.refused(y, "changed", y.changed(), 1);
+        Check.refused(y, "bestDay", y.bestDay(0), 1);
+        Check.refused(y, "idle", y.idle(), 1);
+        Check.refused(y, "swapped", y.swapped(0, 1), 1);
+        Check.refused(y, "bestSwap", y.bestSwap(), 1);
+    }
+
+    private static void one() {
+        MirrorHour x = Check.town(THREE + ";wish q day 9");
+        Check.due("fewest()", x.fewest(), 1);
+        Check.due("fewestAt(0): the first day from the change on", x.fewestAt(0), 41);
+        Check.refused(x, "fewestAt(1)", x.fewestAt(1), 1);
+        Check.refused(x, "fewestAt(-1)", x.fewestAt(-1), 1);
+        x.book(0, 4);
+        Check.due("fewestAt(0): nobody's", x.fewestAt(0), 51);
+        x.book(0, 5);
+        Check.due("fewestAt(0): open", x.fewestAt(0), 71);
+        x.days(8);
+        Check.due("fewestAt(0): not ahead of NOW", x.fewestAt(0), 81);
+        // a visit of his own behind the new one spoils it
+        MirrorHour y = Check.town(HEAD + ";person p plain aaa;change p day 3 mark 0 by 1;change p day 5 mark 0 by 3"
+            + ";visit p day 4;wish p day 9");
+        Check.due("a visit in between that shows another look", y.holds(), 0);
+        Check.due("fewest() behind it", y.fewestAt(0), 50);
+        // late: the mirror shows two days ahead
+        MirrorHour z = Check.town("town marks 3 within 0 late 2 shut 6;person p plain aaa;change p day 3 mark 0 by 1;wish p day 9");
+        Check.due("fewestAt(0) by a late mirror", z.fewestAt(0), 50);
+    }
+
+    private static void more() {
+        MirrorHour x = Check.town(THREE + ";wish r day 9;wish q day 9");
+        Check.due("fewest() of two", x.fewest(), 2);
+        Check.due("fewestAt(0)", x.fewestAt(0), 41);
+        Check.due("fewestAt(1): another day", x.fewestAt(1), 52);
+        MirrorHour y = Check.town(THREE + ";wish r day 9;wish q day 9;wish p day 5");
+        Check.due("fewest() of three", y.fewest(), 3);
+        Check.due("fewestAt(0)", y.fewestAt(0), 40);
+        Check.due("fewestAt(1)", y.fewestAt(1), 51);
+        Check.due("fewestAt(2)", y.fewestAt(2), 72);
+        // two wishes of one person with a change between
+        MirrorHour z = Check.town(THREE + ";change p day 8 mark 1 by 1;wish p day 8;wish p day 5");
+        Check.due("fewest() of one who wishes twice", z.fewest(), 2);
+        Check.due("fewestAt(0)", z.fewestAt(0), 40);
+        Check.due("fewestAt(1)", z.fewestAt(1), 80);
+        // a visit that mends one wish would break another
+        MirrorHour w = Check.town(HEAD + ";person p plain aaa;change p day 2 mark 0 by 1;change p day 4 mark 0 by 3"
+            + ";wish p day 3;wish p day 5");
+        Check.due("fewest(): a second visit mends what the first spoils", w.fewest(), 2);
+        Check.due("fewestAt(0)", w.fewestAt(0), 20);
+        Check.due("fewestAt(1)", w.fewestAt(1), 40);
+    }
+
+    private static void tooMany() {
+        MirrorHour x = Check.town(THREE + ";person s plain aaa;change s day 4 mark 0 by 1"
+            + ";wish p day 9;wish q day 9;wish r day 9;wish s day 9");
+        Check.due("fewest() of four", x.fewest(), -2);
+        Check.due("trouble()", x.trouble(), 0);
+        Check.refused(x, "fewestAt(0)", x.fewestAt(0), 6);
+        x.book(3, 5);
+        Check.due("fewest() of three", x.fewest(), 3);
+        Check.due("fewestAt(2)", x.fewestAt(2), 82);
+        MirrorHour y = Check.town(HEAD + ";person p vain baa;wish p day 9");
+        Check.due("fewest() of a vain one", y.fewest(), -2);
+    }
+
+    private static void notAheadOfNow() {
+        MirrorHour x = Check.town(THREE + ";wish p day 5");
+        x.days(5);
+        Check.due("fewestAt(0) on the day NOW", x.fewestAt(0), 50);
+        x.days(1);
+        Check.due("fewest() of a wish that is over", x.fewest(), -2);
+    }
+
+    private static void rings() {
+        // p has 8, would like 2 (q's); q has 2, would like 4 (r's); r has 4, would like 8 (p's)
+        String three = HEAD + ";person p plain aaa;person q plain aaa;person r plain aaa;person s plain aaa"
+            + ";visit p day 8;visit q day 2;visit r day 4;visit s day 14";
+        MirrorHour x = Check.town(three + ";wish p day 0;wish q day 4;wish r day 9");
+        Check.due("ring(0)", x.ring(0), 2);
+        Check.due("ring(1)", x.ring(1), 4);
+        Check.due("ring(2)", x.ring(2), 8);
+        Check.due("ring(3) of one without a wish", x.ring(3), -2);
+        Check.due("changed()", x.changed(), 3);
+        Check.refused(x, "ring(4)", x.ring(4), 1);
+        // all like 4 best (q's wish lies between 2 and 4... the earlier), then what is left
+        MirrorHour y = Check.town(three + ";wish r day 4;wish p day 4;wish q day 4;wish s day 29;wish p day 8");
+        Check.due("ring(2) keeps", y.ring(2), 4);
+        Check.due("ring(1): 2 is nearer to 4 than 8", y.ring(1), 2);
+        Check.due("ring(0): 8 is what is left, by his first wish", y.ring(0), 8);
+        Check.due("ring(3)", y.ring(3), 14);
+        Check.due("changed()", y.changed(), 0);
+        // 3 is as near to 2 as to 4: the earlier
+        MirrorHour z = Check.town(three + ";wish r day 3;wish q day 3");
+        Check.due("ring(1): the earlier", z.ring(1), 2);
+        Check.due("ring(2)", z.ring(2), 4);
+        MirrorHour w = Check.town(three + ";wish p day 3;wish q day 13");
+        Check.due("ring(0) gets the earlier", w.ring(0), 2);
+        Check.due("ring(1)", w.ring(1), 8);
+        Check.due("changed()", w.changed(), 2);
+    }
+
+    private static void ringsByNow() {
+        MirrorHour x = Check.town(HEAD + ";person p plain aaa;person q plain aaa"
+            + ";visit p day 2;visit p day 9;visit q day 4;visit q day 15;wish p day 16;wish q day 8");
+        Check.due("ring(0) of one with two visits", x.ring(0), -2);
+        Check.due("changed()", x.changed(), 0);
+        x.days(4);
+        Check.due("ring(0) with one left, alone", x.ring(0), 9);
+        Check.due("ring(1) has one on the day NOW", x.ring(1), -2);
+        x.days(1);
+        Check.due("ring(0)", x.ring(0), 15);
+        Check.due("ring(1)", x.ring(1), 9);
+        Check.due("changed()", x.changed(), 2);
+        x.callOff(15);
+        Check.due("ring(1) without a visit", x.ring(1), -2);
+    }
+
+    private static void bestDay() {
+        MirrorHour x = Check.town(THREE + ";wish p day 4;wish p day 9;wish q day 0");
+        Check.due("bestDay(0)", x.bestDay(0), 4);
+        Check.due("bestDay(1): it's all the same", x.bestDay(1), 0);
+        x.book(2, 4);
+        Check.due("bestDay(0): nobody's", x.bestDay(0), 5);
+        x.days(6);
+        Check.due("bestDay(0): not ahead, open", x.bestDay(0), 7);
+        Check.refused(x, "bestDay(3)", x.bestDay(3), 1);
+        x.days(21);
+        Check.due("bestDay(1) on 28, 29", x.bestDay(1), 28);
+        x.book(0, 28);
+        x.book(0, 29);
+        Check.due("bestDay() without a day", x.bestDay(1), -2);
+        Check.due("trouble()", x.trouble(), 0);
+    }
+
+    private static void idle() {
+        MirrorHour x = Check.town(THREE + ";visit p day 4;visit p day 7;visit q day 2;visit q day 5;visit r day 29"
+            + ";wish p day 5;wish q day 8");
+        // without p on 4 his wish fails, without q on 5 his does
+        Check.due("idle()", x.idle(), 1 << 7 | 1 << 2 | 1 << 29);
+        x.days(3);
+        Check.due("idle() NOW or behind", x.idle(), 1 << 7 | 1 << 29);
+        x.days(4);
+        Check.due("idle() on the day NOW", x.idle(), 1 << 7 | 1 << 29);
+        // without a visit one more wish holds
+        MirrorHour y = Check.town(HEAD + ";person p plain aaa;change p day 3 mark 0 by 1;change p day 5 mark 0 by 3"
+            + ";visit p day 4;wish p day 9");
+        Check.due("idle() by which more hold", y.idle(), 1 << 4);
+    }
+
+    private static void swaps() {
+        MirrorHour x = Check.town(THREE + ";visit p day 2;visit q day 4;visit r day 5;visit r day 8"
+            + ";wish p day 4;wish r day 7");
+        Check.due("swapped(2, 4)", x.swapped(2, 4), 2);
+        Check.due("swapped(4, 2)", x.swapped(4, 2), 2);
+        Check.due("swapped(2, 5): p too late, r too early", x.swapped(2, 5), 0);
+        Check.due("swapped(5, 8): one and the same", x.swapped(5, 8), 1);
+        Check.due("swapped leaves all as it is", x.hall(2), 0);
+        Check.due("bestSwap()", x.bestSwap(), 204);
+        Check.refused(x, "swapped(4, 4)", x.swapped(4, 4), 5);
+        Check.refused(x, "swapped(4, 3)", x.swapped(4, 3), 5);
+        Check.refused(x, "swapped(6, 4)", x.swapped(6, 4), 5);
+        Check.refused(x, "swapped(4, 30)", x.swapped(4, 30), 2);
+        Check.refused(x, "swapped(-1, 4)", x.swapped(-1, 4), 2);
+        Check.refused(x, "swapped(30, 30)", x.swapped(30, 30), 2);
+        x.days(3);
+        Check.refused(x, "swapped(2, 4) ahead of NOW", x.swapped(2, 4), 5);
+        Check.due("bestSwap(): none is better than none", x.bestSwap(), -2);
+        Check.due("trouble()", x.trouble(), 0);
+        // of like ones the first: p on 4 or on 5 is as good
+        MirrorHour y = Check.town(THREE + ";visit p day 2;visit p day 3;visit q day 4;visit q day 5;wish p day 5");
+        Check.due("bestSwap() of like ones", y.bestSwap(), 204);
+    }
+}
