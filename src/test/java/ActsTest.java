@@ -40,7 +40,7 @@ public final class ActsTest {
         for (int day = 0; day < 30; day++) {
             more += x.book(1, day) ? 1 : 0;
         }
-        // 7 .. 29 are 23 days; four of them are somebody's already, two or three more are shut (13, 20, 27)
+        // 7 .. 29 are 23 days: 7, 9, 29 are somebody's, 13, 20, 27 are shut
         Check.due("books all days that are left", more, 23 - 3 - 3);
     }
 

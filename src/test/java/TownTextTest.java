@@ -133,6 +133,9 @@ public final class TownTextTest {
         faultAt("|;" + HEAD, 1);
         faultAt("|7", 1);
         faultAt("|towns marks 3", 1);
+        faultAt("|xown marks 3", 1);
+        faultAt("town |narks 3", 1);
+        faultAt(HEAD + ";person p |blain", 1);
         faultAt("town |3", 1);
         faultAt("town marks |x", 1);
         faultAt("town marks 3 |", 1);
