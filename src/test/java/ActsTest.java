@@ -149,6 +149,19 @@ public final class ActsTest {
         }
         Check.due("the first four stay", x.size(10), 4);
         Check.refused(x, "undo of a seventeenth", x.undo(), 6);
+        MirrorHour y = Check.town(TOWN);
+        int[] days = {0, 1, 2, 3, 5, 7, 8, 10, 11, 12, 14, 15, 16, 17, 18, 19, 21, 22, 23};
+        for (int i = 0; i < days.length; i++) {
+            y.book(0, days[i]);
+            Check.due("size(12) after " + (i + 1), y.size(12), Math.min(i + 1, 16));
+        }
+        for (int i = days.length - 1; i >= 3; i--) {
+            Check.due("undo of day " + days[i], y.undo(), true);
+            Check.due("hall(" + days[i] + ")", y.hall(days[i]), -2);
+            Check.due("hall(" + days[i - 1] + ")", y.hall(days[i - 1]), 0);
+        }
+        Check.refused(y, "undo of the third", y.undo(), 6);
+        Check.due("size(6)", y.size(6), 5);
     }
 
     private static void images() {

@@ -28,6 +28,11 @@ public final class GuardsTest {
         MirrorHour v = Check.town(HEAD + ";person p plain abb;person q plain abc;change q day 5 mark 2 by 3");
         Check.due("guard(4)", v.guard(4), 4);
         Check.due("guard(5)", v.guard(5), -2);
+        MirrorHour six = Check.town("town marks 6 within 0 late 0 shut 6;person p plain aaaaaa;person q plain baaaaa"
+            + ";person r plain abaaaa;person s plain aabaaa;change q day 1 mark 0 by 3;change q day 1 mark 3 by 1"
+            + ";change r day 1 mark 1 by 3;change r day 1 mark 4 by 1;change s day 1 mark 2 by 3;change s day 1 mark 5 by 1");
+        Check.due("guard(0) of six marks", six.guard(0), 7);
+        Check.due("guard(1): all six marks", six.guard(1), 63);
         MirrorHour u = Check.town(HEAD + ";person p plain abb;person q plain abc;change q day 5 mark 1 by 1;visit q day 8");
         Check.due("guard(5) by q's look and his old papers", u.guard(5), 4);
         Check.due("guard(8): mark 1 alone does too", u.guard(8), 2);

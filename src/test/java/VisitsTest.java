@@ -11,9 +11,11 @@ public final class VisitsTest {
         none();
         one();
         more();
+        lateHelp();
         tooMany();
         notAheadOfNow();
         rings();
+        ringsOfFive();
         ringsByNow();
         bestDay();
         idle();
@@ -80,6 +82,17 @@ public final class VisitsTest {
         Check.due("fewestAt(1)", w.fewestAt(1), 40);
     }
 
+    private static void lateHelp() {
+        // p and q can be helped on any day, r on the last ones only
+        MirrorHour x = Check.town(HEAD + ";person p plain aaa;person q plain aaa;person r plain aaa"
+            + ";change p day 0 mark 0 by 1;change q day 0 mark 0 by 1;change r day 25 mark 0 by 1"
+            + ";wish p day 29;wish q day 29;wish r day 29");
+        Check.due("fewest()", x.fewest(), 3);
+        Check.due("fewestAt(0)", x.fewestAt(0), 0);
+        Check.due("fewestAt(1)", x.fewestAt(1), 11);
+        Check.due("fewestAt(2)", x.fewestAt(2), 252);
+    }
+
     private static void tooMany() {
         MirrorHour x = Check.town(THREE + ";person s plain aaa;change s day 4 mark 0 by 1"
             + ";wish p day 9;wish q day 9;wish r day 9;wish s day 9");
@@ -127,6 +140,21 @@ public final class VisitsTest {
         Check.due("ring(0) gets the earlier", w.ring(0), 2);
         Check.due("ring(1)", w.ring(1), 8);
         Check.due("changed()", w.changed(), 2);
+    }
+
+    private static void ringsOfFive() {
+        String five = "town marks 3 within 0 late 0 shut 0";
+        for (char c = 'p'; c <= 't'; c++) {
+            five += ";person " + c + " plain aaa;visit " + c + " day " + (c - 'p' + 1) * 4;
+        }
+        MirrorHour x = Check.town(five + ";wish p day 4;wish q day 8;wish r day 12;wish s day 16;wish t day 20");
+        MirrorHour y = Check.town(five + ";wish p day 8;wish q day 12;wish r day 16;wish s day 20;wish t day 4");
+        for (int p = 0; p < 5; p++) {
+            Check.due("each is a ring of his own: ring(" + p + ")", x.ring(p), 4 * p + 4);
+            Check.due("one ring of all: ring(" + p + ")", y.ring(p), p == 4 ? 4 : 4 * p + 8);
+        }
+        Check.due("changed() of none", x.changed(), 0);
+        Check.due("changed() of all", y.changed(), 5);
     }
 
     private static void ringsByNow() {
