@@ -1436,13 +1436,16 @@ public final class MirrorHour {
         private final int[] chosen = new int[MOST];
         private int candidateCount;
         private int count;
+        private int due;
+        private int waiting;
 
         void search(State now) {
             for (int w = 0; w < now.town.wishes(); w++) {
                 set(presentVisit, w, now.latestVisit(get(now.town.wishPerson, w), get(now.town.wishDay, w)));
             }
-            listCandidates(now);
-            for (int n = 0; n <= MOST; n++) {
+            int inReach = listCandidates(now) | now.wishesHeld();
+            boolean hope = inReach == (1 << now.town.wishes()) - 1;
+            for (int n = 0; n <= MOST && hope; n++) {
                 count = n;
                 if (completes(now, 0, 0)) {
                     return;
@@ -1451,42 +1454,50 @@ public final class MirrorHour {
             count = NOT_ANY;
         }
 
-        private void listCandidates(State now) {
+        /** The wishes, as bits, that could hold by one candidate or another. */
+        private int listCandidates(State now) {
+            int all = 0;
             candidateCount = 0;
             for (int day = 0; day < DAYS; day++) {
                 for (int p = 0; p < now.town.people(); p++) {
-                    if (now.isFree(day) && helps(now, p, day)) {
+                    int helped = now.isFree(day) ? helpedBy(now, p, day) : 0;
+                    if (helped != 0) {
                         set(candidates, candidateCount, 10 * day + p);
                         candidateCount++;
                     }
+                    all |= helped;
                 }
             }
+            return all;
         }
 
         /**
-         * Whether some wish could hold by this VISIT. Of the FEWEST each does so for one: without
+         * The wishes, as bits, that could hold by this VISIT. Each of the FEWEST helps one: without
          * another one still fewer would be enough.
          */
-        private boolean helps(State now, int p, int day) {
+        private int helpedBy(State now, int p, int day) {
+            int bits = 0;
             for (int w = 0; w < now.town.wishes(); w++) {
                 int wished = get(now.town.wishDay, w);
                 if (get(now.town.wishPerson, w) == p && wished >= day
                         && get(presentVisit, w) < day && now.knowsBy(p, wished, day)) {
-                    return true;
+                    bits |= 1 << w;
                 }
             }
-            return false;
+            return bits;
         }
 
         /** Whether the first so many that are chosen can be made up, by candidates from a place on. */
         private boolean completes(State now, int depth, int from) {
-            int due = firstBroken(now, depth);
-            if (depth >= count || due == DAYS) {
-                return depth == count && due == DAYS;
+            lookAtWishes(now, depth);
+            int last = due;
+            // each one who waits needs a VISIT of his own
+            if (depth >= count || waiting == 0 || Integer.bitCount(waiting) > count - depth) {
+                return depth == count && waiting == 0;
             }
             for (int i = from; i < candidateCount; i++) {
                 // a wish is past help by VISITS on later days, and candidates stand by days
-                if (get(candidates, i) / 10 > due) {
+                if (get(candidates, i) / 10 > last) {
                     return false;
                 }
                 if (completesBy(now, depth, i)) {
@@ -1505,17 +1516,18 @@ public final class MirrorHour {
             return completes(now, depth + 1, i + 1);
         }
 
-        /** The first day of a wish that doesn't hold by the first so many chosen; DAYS without one. */
-        private int firstBroken(State now, int depth) {
-            int first = DAYS;
+        /** Who waits for wishes, as bits, with the first so many chosen, and the first day that is due. */
+        private void lookAtWishes(State now, int depth) {
+            due = DAYS;
+            waiting = 0;
             for (int w = 0; w < now.town.wishes(); w++) {
                 int p = get(now.town.wishPerson, w);
                 int wished = get(now.town.wishDay, w);
                 if (!now.knowsBy(p, wished, visitWith(w, p, wished, depth))) {
-                    first = Math.min(first, wished);
+                    due = Math.min(due, wished);
+                    waiting |= 1 << p;
                 }
             }
-            return first;
         }
 
         private int visitWith(int w, int p, int wished, int depth) {

@@ -8,12 +8,16 @@ public final class ActsTest {
 
     public static void main(String[] args) {
         book();
+        dayNow();
         callOff();
         shock();
         days();
         undo();
+        undoOfMany();
         sixteen();
+        sixteenIsAllThatIsKept();
         images();
+        imagesOfOneTown();
         led();
         sizes();
         Check.end("ActsTest");
@@ -31,6 +35,8 @@ public final class ActsTest {
         Check.refused(x, "book(-1, 7)", x.book(-1, 7), 1);
         Check.refused(x, "book(0, 30)", x.book(0, 30), 2);
         Check.refused(x, "book(0, -1)", x.book(0, -1), 2);
+        Check.due("book on the first day", x.book(0, 0), true);
+        x.undo();
         x.days(7);
         Check.refused(x, "book: ahead of NOW", x.book(0, 3), 5);
         Check.due("book on the day NOW", x.book(0, 7), true);
@@ -42,6 +48,28 @@ public final class ActsTest {
         }
         // 7 .. 29 are 23 days: 7, 9, 29 are somebody's, 13, 20, 27 are shut
         Check.due("books all days that are left", more, 23 - 3 - 3);
+    }
+
+    private static void dayNow() {
+        MirrorHour x = Check.town(TOWN);
+        x.days(3);
+        Check.refused(x, "book on the day ahead of NOW", x.book(0, 2), 5);
+        Check.due("book on the day NOW", x.book(0, 3), true);
+        x.days(1);
+        Check.refused(x, "callOff on the day ahead of NOW", x.callOff(3), 5);
+        Check.due("callOff on the day NOW", x.callOff(4), true);
+        Check.due("book it again", x.book(1, 4), true);
+        x.shock(1, 0, 1);
+        Check.due("look on the day ahead of a shock", x.look(1, 3, 0), 1);
+        Check.due("look on the day of a shock", x.look(1, 4, 0), 2);
+        x.days(25);
+        Check.due("size(10) is the last day", x.size(10), 29);
+        Check.due("book on the last day", x.book(0, 29), true);
+        Check.refused(x, "book on the day ahead of the last", x.book(0, 28), 5);
+        Check.due("shock on the last day", x.shock(0, 0, 1), true);
+        Check.due("look on the day ahead of it", x.look(0, 28, 0), 0);
+        Check.due("look on the last day", x.look(0, 29, 0), 1);
+        Check.due("callOff on the last day", x.callOff(29), true);
     }
 
     private static void callOff() {
@@ -164,6 +192,87 @@ public final class ActsTest {
         Check.due("size(6)", y.size(6), 5);
     }
 
+    /** Each kind of act stands ahead of each other one. */
+    private static void undoOfMany() {
+        MirrorHour x = Check.town(TOWN);
+        for (int first = 0; first < 4; first++) {
+            for (int second = 0; second < 4; second++) {
+                act(x, first, 10);
+                act(x, second, 11);
+                x.undo();
+                x.undo();
+                String of = " after undoing " + first + ", " + second;
+                Check.due("size(10)" + of, x.size(10), 0);
+                Check.due("size(11)" + of, x.size(11), 0);
+                Check.due("size(12)" + of, x.size(12), 0);
+                Check.due("hall(10)" + of, x.hall(10), -2);
+                Check.due("hall(11)" + of, x.hall(11), -2);
+                Check.due("hall(4)" + of, x.hall(4), 0);
+                Check.due("hall(9)" + of, x.hall(9), 1);
+                Check.due("look(0, 29, 1)" + of, x.look(0, 29, 1), 1);
+            }
+        }
+    }
+
+    private static void act(MirrorHour x, int kind, int day) {
+        boolean done;
+        switch (kind) {
+            case 0 -> done = x.book(1, day);
+            case 1 -> done = x.callOff(x.hall(9) == 1 ? 9 : 4);
+            case 2 -> done = x.shock(0, 1, day - 9);
+            default -> done = x.days(day - 9) > 0;
+        }
+        Check.due("act " + kind, done, true);
+    }
+
+    private static void sixteenIsAllThatIsKept() {
+        MirrorHour x = Check.town(TOWN);
+        x.shock(0, 0, 1);
+        for (int i = 0; i < 15; i++) {
+            x.days(1);
+        }
+        Check.due("the sixteenth is kept", x.size(12), 16);
+        for (int i = 0; i < 16; i++) {
+            Check.due("undo of the sixteen", x.undo(), true);
+        }
+        Check.due("the first one too", x.size(11), 0);
+        x.shock(0, 0, 1);
+        for (int i = 0; i < 16; i++) {
+            x.days(1);
+        }
+        for (int i = 0; i < 16; i++) {
+            Check.due("undo of the latest sixteen", x.undo(), true);
+        }
+        Check.refused(x, "undo of the first of seventeen", x.undo(), 6);
+        Check.due("the first one stays", x.size(11), 1);
+    }
+
+    private static void imagesOfOneTown() {
+        MirrorHour x = Check.town(TOWN);
+        x.shock(0, 0, 1);
+        x.image();
+        x.days(3);
+        x.town(Check.feed(x, "town marks 2"));
+        Check.due("behind a town with a fault back(0)", x.back(0), true);
+        Check.due("size(10)", x.size(10), 0);
+        Check.due("size(11)", x.size(11), 1);
+        x.image();
+        x.image();
+        Check.refused(x, "a fourth", x.image(), 3);
+        x.undo();
+        Check.refused(x, "undoing makes no room for it", x.image(), 3);
+        x.back(2);
+        Check.refused(x, "going back makes none either", x.image(), 3);
+        Check.due("town", x.town(Check.feed(x, TOWN)), 2);
+        Check.refused(x, "back(0) to the old town", x.back(0), 1);
+        Check.due("image() begins anew", x.image(), 0);
+        Check.due("back(0)", x.back(0), true);
+        Check.due("size(11) of the new town", x.size(11), 0);
+        Check.due("back(0) leaves the tape", x.feed(0, 0, 0, 0, 0), 20);
+        x.back(0);
+        Check.due("size(14)", x.size(14), 20);
+    }
+
     private static void images() {
         MirrorHour x = Check.town(TOWN);
         Check.refused(x, "back(0) without an image", x.back(0), 1);
@@ -218,6 +327,10 @@ public final class ActsTest {
         Check.ledThrows(x, Integer.MAX_VALUE);
         Check.ledThrows(x, Integer.MIN_VALUE);
         Check.due("trouble() isn't told by led", x.trouble(), 2);
+        x.shock(0, 0, 1);
+        Check.led(x, 0, 0);
+        Check.led(x, 1, 1);
+        Check.ledThrows(x, 2);
         MirrorHour none = new MirrorHour();
         Check.ledThrows(none, 0);
     }

@@ -18,6 +18,12 @@ public final class DaysTest {
         passing();
         twins();
         wishes();
+        firstAndLastDay();
+        nobodyBeyond();
+        wraps();
+        upToWithin();
+        lateByAll();
+        shutDays();
         refusals();
         Check.end("DaysTest");
     }
@@ -165,6 +171,121 @@ public final class DaysTest {
         x.shock(3, 3, 1);
         Check.due("holds() by a shock", x.holds(), 21);
         Check.due("holds() without wishes", Check.town("town marks 3 within 0 late 0 shut 6;person p plain abc").holds(), 0);
+    }
+
+    private static void firstAndLastDay() {
+        MirrorHour x = Check.town("town marks 3 within 0 late 0 shut 6;person p plain aaa;person q plain aaa"
+            + ";change p day 0 mark 1 by 1;change q day 29 mark 2 by 1;visit p day 0;visit q day 29");
+        Check.due("look on day 0 by a change on it", x.look(0, 0, 1), 1);
+        Check.due("belief by a visit on day 0", x.belief(0, 0, 1), 1);
+        Check.due("papers by a visit on day 0", x.papers(0, 0, 1), 1);
+        Check.due("latest(0, 0)", x.latest(0, 0), 0);
+        Check.due("latest(1, 28)", x.latest(1, 28), -2);
+        Check.due("latest(1, 29)", x.latest(1, 29), 29);
+        Check.due("look on day 28", x.look(1, 28, 2), 0);
+        Check.due("look on day 29 by a change on it", x.look(1, 29, 2), 1);
+        Check.due("belief by a visit on day 29", x.belief(1, 29, 2), 1);
+        Check.due("papers by a visit on day 29", x.papers(1, 29, 2), 1);
+        Check.due("known(1) on all days", x.known(1), 30);
+        x.callOff(29);
+        Check.due("stranger(1) on the last day", x.stranger(1), 29);
+        Check.due("known(1) but the last day", x.known(1), 29);
+        x.callOff(0);
+        Check.due("stranger(0) on the first day", x.stranger(0), 0);
+        Check.due("known(0) on no day", x.known(0), 0);
+        Check.due("papers without a visit are as told", x.papers(0, 29, 1), 0);
+        Check.due("belief without a visit is as told", x.belief(0, 29, 1), 0);
+        MirrorHour y = Check.town("town marks 3 within 0 late 0 shut 6;person p plain aaa;person q plain aab"
+            + ";person r plain bab;change r day 29 mark 0 by 3");
+        Check.due("twins() of the second and the third on the last day", y.twins(), 29);
+    }
+
+    /** A town of one, whose look is aaa: there is nobody else, of no look. */
+    private static void nobodyBeyond() {
+        MirrorHour x = Check.town("town marks 3 within 2 late 0 shut 6;person p plain aaa");
+        Check.due("passes(0, 0)", x.passes(0, 0), 0);
+        Check.due("passedBy(0, 0)", x.passedBy(0, 0), 0);
+        Check.due("doubles(0)", x.doubles(0), 0);
+        Check.due("twins()", x.twins(), -2);
+        Check.due("worst(0)", x.worst(0), 0);
+        Check.due("knows(0)", x.knows(0), 1);
+        Check.due("holds()", x.holds(), 0);
+        x.shock(0, 0, 1);
+        x.shock(0, 1, 1);
+        x.shock(0, 2, 1);
+        Check.due("worst(0) of one who is mistaken", x.worst(0), 0);
+        MirrorHour y = Check.town("town marks 3 within 0 late 0 shut 6;person p plain aaa;person q plain aaa;person r plain aaa");
+        y.shock(1, 0, 1);
+        Check.due("worst(0) is the second", y.worst(0), 1);
+        y.shock(2, 0, 1);
+        Check.due("worst(0) of two like ones is the first", y.worst(0), 1);
+        y.shock(2, 1, 1);
+        Check.due("worst(0) is the last", y.worst(0), 2);
+    }
+
+    private static void wraps() {
+        MirrorHour x = Check.town("town marks 3 within 0 late 0 shut 6;person p plain dcb;person q aged cdd;person r bearded ada"
+            + ";change p day 1 mark 0 by 1;change p day 2 mark 1 by 2;change p day 3 mark 2 by 3");
+        Check.due("d goes on by one", x.look(0, 1, 0), 0);
+        Check.due("c goes on by two", x.look(0, 2, 1), 0);
+        Check.due("b goes on by three", x.look(0, 3, 2), 0);
+        int[] aged = {2, 2, 3, 3, 0, 0};
+        int[] agedDays = {0, 9, 10, 19, 20, 29};
+        for (int i = 0; i < aged.length; i++) {
+            Check.due("aged on day " + agedDays[i], x.look(1, agedDays[i], 0), aged[i]);
+        }
+        for (int day = 0; day < 30; day++) {
+            Check.due("bearded on day " + day, x.look(2, day, 1), (3 + day / 4) % 4);
+            Check.due("plain on day " + day, x.look(0, day, 0), day < 1 ? 3 : 0);
+        }
+        for (int i = 0; i < 4; i++) {
+            x.shock(0, 1, 3);
+        }
+        Check.due("four times three is all round", x.look(0, 29, 1), 0);
+    }
+
+    private static void upToWithin() {
+        for (int within = 0; within <= 2; within++) {
+            MirrorHour x = Check.town("town marks 3 within " + within + " late 0 shut 6;person p plain aaa;person q plain aaa"
+                + ";wish p day 0");
+            for (int unlike = 1; unlike <= 3; unlike++) {
+                x.shock(0, unlike - 1, 1);
+                String of = " of " + unlike + " within " + within;
+                boolean more = unlike > within;
+                Check.due("mistaken(0, 0)" + of, x.mistaken(0, 0), unlike);
+                Check.due("knows(0)" + of, x.knows(0), more ? 2 : 3);
+                Check.due("passes(0, 0)" + of, x.passes(0, 0), more ? 0 : 2);
+                Check.due("passedBy(1, 0)" + of, x.passedBy(1, 0), more ? 0 : 1);
+                Check.due("doubles(0)" + of, x.doubles(0), more ? 1 : 2);
+                Check.due("holds()" + of, x.holds(), more ? 0 : 1);
+                Check.due("stranger(0)" + of, x.stranger(0), more ? 0 : -2);
+                Check.due("known(0)" + of, x.known(0), more ? 0 : 30);
+            }
+        }
+    }
+
+    /** What the mirror shows on a day: the look late days ahead of it, but none ahead of day 0. */
+    private static void lateByAll() {
+        for (int late = 0; late <= 3; late++) {
+            for (int visit = 0; visit <= 4; visit++) {
+                MirrorHour x = Check.town("town marks 3 within 0 late " + late + " shut 6;person p plain aaa"
+                    + ";change p day 0 mark 0 by 1;change p day 1 mark 0 by 1;change p day 2 mark 0 by 1"
+                    + ";visit p day " + visit);
+                int shown = Math.max(0, visit - late);
+                String of = " late " + late + " on day " + visit;
+                Check.due("belief" + of, x.belief(0, visit, 0), Math.min(shown + 1, 3));
+                Check.due("papers" + of, x.papers(0, visit, 0), Math.min(visit + 1, 3));
+            }
+        }
+    }
+
+    private static void shutDays() {
+        for (int shut = 0; shut < 7; shut++) {
+            MirrorHour x = Check.town("town marks 3 within 0 late 0 shut " + shut + ";person p plain aaa");
+            for (int day = 0; day < 30; day++) {
+                Check.due("hall(" + day + ") shut " + shut, x.hall(day), (day - shut) % 7 == 0 ? -3 : -2);
+            }
+        }
     }
 
     private static void refusals() {

@@ -9,6 +9,8 @@ public final class GuardsTest {
         guards();
         unknown();
         pass();
+        passEdges();
+        fivePeople();
         refusals();
         Check.end("GuardsTest");
     }
@@ -72,6 +74,45 @@ public final class GuardsTest {
         MirrorHour y = Check.town(HEAD + ";person p plain aaa;person q plain bbb");
         Check.due("pass(): of like ones the first", y.pass(), 0);
         Check.due("passLeaves()", y.passLeaves(), 27);
+    }
+
+    private static void passEdges() {
+        // passLeaves() and pass() each asked first
+        Check.due("passLeaves() of all", Check.town(HEAD + ";person p plain aaa").passLeaves(), 27);
+        MirrorHour x = Check.town(HEAD + ";person p plain aaa;stare p 3");
+        Check.due("passLeaves() of the first look alone", x.passLeaves(), 1);
+        Check.due("pass()", x.pass(), 0);
+        MirrorHour y = Check.town(HEAD + ";person p plain ddd;stare p 3");
+        Check.due("unknownAt(0) of the last look alone", y.unknownAt(0), 444);
+        Check.due("passLeaves()", y.passLeaves(), 1);
+        MirrorHour z = Check.town(HEAD + ";person p plain aaa;stare p 0");
+        Check.due("passLeaves() of those alike in no mark", z.passLeaves(), 27);
+        MirrorHour w = Check.town("town marks 6 within 0 late 0 shut 6;person p plain abcdab;stare p 6");
+        Check.due("passLeaves() of one alike in six marks", w.passLeaves(), 1);
+        Check.due("unknownAt(0)", w.unknownAt(0), 123412);
+        MirrorHour v = Check.town(HEAD + ";person p plain aaa;person q plain bbb;stare p 2;stare q 2");
+        Check.due("unknown() of none", v.unknown(), 0);
+        Check.due("passLeaves() of none", v.passLeaves(), -2);
+        Check.due("trouble() of none", v.trouble(), 0);
+        Check.due("pass() of none", v.pass(), -2);
+        Check.due("trouble() of none", v.trouble(), 0);
+    }
+
+    private static void fivePeople() {
+        String four = HEAD + ";person p plain aaa;person q plain aaa;person r plain aaa;person s plain aaa";
+        MirrorHour x = Check.town(four + ";person t plain aab");
+        Check.due("unknown() without a stare", x.unknown(), 64);
+        Check.due("unknownAt(0)", x.unknownAt(0), 111);
+        Check.due("pass() of all looks", x.pass(), 0);
+        MirrorHour y = Check.town(four + ";person t plain aab;stare p 2");
+        Check.due("pass() is the last, who isn't stared at", y.pass(), 4);
+        Check.due("passLeaves()", y.passLeaves(), 6);
+        MirrorHour z = Check.town("town marks 6 within 0 late 0 shut 6;person p plain aaaaaa;person q plain aaaaaa"
+            + ";person r plain aaaaaa;person s plain aaaaaa;person t plain aaaaab;stare s 5");
+        // 18 looks: t is alike in 6 once, in 5 twice, in 4 fifteen times
+        Check.due("unknown() of six marks", z.unknown(), 18);
+        Check.due("pass()", z.pass(), 4);
+        Check.due("passLeaves()", z.passLeaves(), 15);
     }
 
     private static void refusals() {

@@ -11,6 +11,7 @@ public final class NeighboursTest {
         one();
         three();
         likeOnes();
+        theFirstOne();
         refusals();
         Check.end("NeighboursTest");
     }
@@ -55,6 +56,21 @@ public final class NeighboursTest {
         asks(";asks p q odds 0;asks p r odds 0;asks p s odds 0;asks p t odds 0", 2, 0, 1, 0, 1);
         // three of 50 are as likely as one: fewest
         asks(";asks p r odds 50;asks p s odds 50;asks p t odds 50", 4, 1, 2, 1, 8);
+    }
+
+    private static void theFirstOne() {
+        MirrorHour x = Check.town(FIVE + ";asks t p odds 60;asks q p odds 80;asks q r odds 80;asks q t odds 80"
+            + ";asks s t odds 1;asks s q odds 1;asks s r odds 1;asks s p odds 1");
+        Check.due("ask(4) of the first person alone", x.ask(4), 1);
+        Check.due("truth(4, false)", x.truth(4, false), 3);
+        Check.due("allTell(4, true)", x.allTell(4, true), 5);
+        Check.due("ask(1) with the first and the last", x.ask(1), 1 + 4 + 16);
+        Check.due("truth(1, false)", x.truth(1, false), 112);
+        Check.due("allTell(1, false)", x.allTell(1, false), 64);
+        Check.due("ask(3): of four like ones the first", x.ask(3), 1);
+        Check.due("allTell(3, false)", x.allTell(3, false), 1);
+        Check.due("allTell(3, true) of four at 1 of 100", x.allTell(3, true), 100_000_000);
+        Check.due("ask(0) of who asks nobody", x.ask(0), 0);
     }
 
     private static void refusals() {

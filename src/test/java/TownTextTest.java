@@ -9,8 +9,13 @@ public final class TownTextTest {
     public static void main(String[] args) {
         newObject();
         tape();
+        fullTape();
+        firstBytes();
         townNumbers();
         good();
+        names();
+        sixMarks();
+        tokens();
         form();
         untold();
         toldAgain();
@@ -98,6 +103,93 @@ public final class TownTextTest {
         z.town(20);
         Check.due("where() of byte 255", z.where(), 0);
         Check.due("fault() of byte 255", z.fault(), 1);
+    }
+
+    private static void fullTape() {
+        MirrorHour x = new MirrorHour();
+        // the last LETTER stands in the last byte
+        StringBuilder text = new StringBuilder(HEAD + ";person p plain");
+        while (text.length() < 797) {
+            text.append(' ');
+        }
+        Check.due("all 800 bytes", Check.feed(x, text + "abc"), 800);
+        Check.due("one more feed", x.feed(0x20202020, 0, 0, 0, 0), -1);
+        Check.due("none came", x.size(14), 800);
+        Check.due("town(800)", x.town(800), 1);
+        Check.due("the last letter", x.look(0, 0, 2), 2);
+        Check.due("a feed to the tape that is empty again", x.feed(0, 0, 0, 0, 0), 20);
+        Check.due("byte 0 begins no token", x.town(1), -1);
+        Check.due("fault() of byte 0", x.fault(), 1);
+        Check.due("where() of byte 0", x.where(), 0);
+        Check.feed(x, text + "abcd");
+        Check.due("780 bytes and twenty more have room", x.size(14), 800);
+        Check.refused(x, "a look of no more than the last three bytes", x.town(799), 4);
+        Check.due("fault() of a look that is cut off", x.fault(), 7);
+        Check.due("where() of it", x.where(), 797);
+    }
+
+    /** What stands behind the first n bytes is gone, and means nothing. */
+    private static void firstBytes() {
+        MirrorHour x = new MirrorHour();
+        int n = Check.feed(x, HEAD + ";person p plain abcd!!");
+        Check.due("a look that n cuts", x.town(n - 3), 1);
+        Check.due("its last letter", x.look(0, 0, 2), 2);
+        Check.due("the tape is empty", x.size(14), 0);
+        n = Check.feed(x, HEAD + ";person p plain abc;person abcdefghijk");
+        Check.refused(x, "a name that n cuts to eight letters", x.town(n - 3), 4);
+        Check.due("the end is at fault then", x.where(), n - 3);
+        n = Check.feed(x, "town marks 3000");
+        Check.refused(x, "a whole that n cuts to one digit", x.town(n - 3), 4);
+        Check.due("the end is at fault then", x.where(), n - 3);
+        Check.due("fault() of it", x.fault(), 1);
+    }
+
+    private static void names() {
+        MirrorHour x = Check.town(HEAD + ";person a plain aaa;person aa plain aaa;person aaa plain aaa"
+            + ";person zzzzzzzz plain aaa;person zzzzzzzy plain aaa"
+            + ";visit zzzzzzzy day 4;visit aaa day 2;visit aa day 3;visit zzzzzzzz day 5;visit a day 0");
+        int[] visitors = {0, -3, 2, 1, 4, 3};
+        for (int day = 0; day < visitors.length; day++) {
+            Check.due("hall(" + day + ") by names that begin alike", x.hall(day), visitors[day]);
+        }
+        told(HEAD + ";person mark plain abc;person within aged abc;person d vain abc;change mark day 1 mark 1 by 1", 3);
+        told(HEAD + ";person azzzzzzz plain abc;person bzzzzzzz plain abc", 2);
+        faultAt(HEAD + ";person zzzzzzzz plain abc;person |zzzzzzzz", 3);
+        faultAt(HEAD + ";person p plain abc;visit |q day 2;person q plain abc", 2);
+        faultAt(HEAD + ";person p plain abc;asks p |q odds 2;person q plain abc", 2);
+    }
+
+    private static void sixMarks() {
+        String six = "town marks 6 within 2 late 3 shut 0;person p plain abcdab";
+        told(six + ";change p day 29 mark 5 by 3", 1);
+        faultAt(six + ";change p day 29 mark |6 by 3", 4);
+        told(six + ";stare p 6", 1);
+        faultAt(six + ";stare p |7", 4);
+        faultAt("town marks 6 within 2 late 3 shut 0;person p plain |abcda", 7);
+        faultAt("town marks 6 within 2 late 3 shut 0;person p plain |abcdabc", 7);
+        faultAt("town marks 6 within 2 late 3 shut 0;person p plain |abcdaz", 7);
+        told(six + ";visit p day 29", 1);
+        faultAt(six + ";visit p day |28", 8);
+        faultAt(six + ";visit p day |0", 8);
+        told(six + ";wish p day 28;change p day 28 mark 0 by 1", 1);
+    }
+
+    /** Blanks part TOKENS, but needn't stand where others part; no other byte does. */
+    private static void tokens() {
+        told("town marks3within1late1shut1;person p plain abc;stare p3;visit p day000", 1);
+        faultAt("|townmarks 3", 1);
+        faultAt("town marks 3|\n", 1);
+        faultAt("town marks |\t3", 1);
+        faultAt("town marks |-1", 1);
+        faultAt("town marks 3 within |:", 1);
+        faultAt("town marks 3 within |/", 1);
+        faultAt("town marks 3 |`", 1);
+        faultAt("town marks 3 |{", 1);
+        faultAt("|@", 1);
+        faultAt("|[", 1);
+        faultAt("town marks 3 within 1 late 1 shut |0001", 1);
+        faultAt(HEAD + ";person p plain abc|:", 1);
+        faultAt(HEAD + ";person p plain abc|\u00a0", 1);
     }
 
     private static void townNumbers() {
@@ -224,6 +316,8 @@ public final class TownTextTest {
         }
         told(five.toString(), 5);
         faultAt(five + ";|person f plain abc", 5);
+        faultAt(five + ";|person a plain abc", 5);
+        faultAt(five + ";|person 7", 5);
         faultAt(five + ";|person", 5);
         many(TWO, ";change p day 1 mark 1 by 1", 10);
         StringBuilder visits = new StringBuilder(TWO);
@@ -235,6 +329,7 @@ public final class TownTextTest {
         }
         told(visits.toString(), 2);
         faultAt(visits + ";|visit p day 13", 5);
+        faultAt(visits + ";|visit r day 1", 5);
         StringBuilder wishes = new StringBuilder(TWO);
         for (int day = 0; day < 5; day++) {
             wishes.append(";wish p day ").append(day);
