@@ -193,6 +193,8 @@ public final class VisitsTest {
             + ";change q day 7 mark 0 by 1;wish p day 6;wish q day 7;wish p day 8");
         fewest(y, -2);
         Check.due("holds()", y.holds(), 1);
+        // who is vain, but doesn't wish, needs no visit
+        fewest(Check.town(HEAD + ";person p vain baa;person q plain aaa;change q day 7 mark 0 by 1;wish q day 7"), 1, 71);
     }
 
     private static void rings() {
