@@ -152,6 +152,9 @@ public final class TownTextTest {
         for (int day = 0; day < visitors.length; day++) {
             Check.due("hall(" + day + ") by names that begin alike", x.hall(day), visitors[day]);
         }
+        for (char c = 'a'; c <= 'z'; c++) {
+            told(HEAD + ";person " + c + " plain abc;person " + c + c + " plain abc;person " + c + c + c + " plain abc", 3);
+        }
         told(HEAD + ";person mark plain abc;person within aged abc;person d vain abc;change mark day 1 mark 1 by 1", 3);
         told(HEAD + ";person azzzzzzz plain abc;person bzzzzzzz plain abc", 2);
         faultAt(HEAD + ";person zzzzzzzz plain abc;person |zzzzzzzz", 3);
